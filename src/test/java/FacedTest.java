@@ -105,5 +105,14 @@ public final class FacedTest {
         Check.due("two", x.look(0), 1);
         x.step();
         Check.due("at the edge", x.look(0), 0);
+        // A long look, found by search: the model says the same.
+        x = Check.landOf("m2 6;m4 2;m4 4;m6 5;g7 4 3;g4 3 3;g7 0 3;g0 6 3;o1 4 1;o4 1 0;o3 7 1;o3 6 0;o2 3 0;"
+                + "o5 6 0;o3 3 0;o6 5 0;o5 6 0;o1 3 0;");
+        for (int g = 0; g < 4; g++) {
+            x.deals(g, 1);
+        }
+        Check.due("behind 20 steps", x.look(3), 20);
+        x.step();
+        Check.due("behind 19 steps", x.look(3), 19);
     }
 }

@@ -71,6 +71,16 @@ public final class ForetoldTest {
         Check.due("comes(0, -1)", x.comes(0, -1), BackMarch.BAD);
         Check.due("comes(2, 0)", x.comes(2, 0), BackMarch.BAD);
         Check.due("comes(-1, 0)", x.comes(-1, 0), BackMarch.BAD);
+        // A long way, found by search: the model says the same.
+        x = Check.landOf("m4 7;m0 2;m0 5;m6 1;g1 6 0;g0 2 2;g6 2 3;g0 1 1;o5 1 0;o5 0 1;o2 3 0;o6 6 0;o3 4 1;"
+                + "o6 1 0;o6 0 0;o6 1 0;o2 5 1;o3 6 1;");
+        for (int g = 0; g < 4; g++) {
+            x.deals(g, 1);
+        }
+        Check.due("behind 40 steps", x.comes(3, 71), 40);
+        Check.due("where behind 40 steps", x.where(3, 40), 71);
+        x.step();
+        Check.due("behind 39 steps", x.comes(3, 71), 39);
     }
 
     private static void waves() {
