@@ -565,7 +565,7 @@ public final class BackMarch {
 
         /** The bit of a cell that THE LAND has, in a set of cells. */
         static long maskOf(int cell) {
-            return 1L << WIDEST * xOf(cell) + yOf(cell);
+            return 1L << WIDEST * (cell / 10) + cell % 10;
         }
 
         boolean isFold(int cell) {
@@ -684,8 +684,8 @@ public final class BackMarch {
 
         int regimentsAt(int cell) {
             int set = 0;
-            for (int g = 0; g < ground.regiments; g++) {
-                if (elementOf(regimentCells, g) == cell) {
+            for (int g = 0; g < ground.regiments && g < regimentCells.length; g++) {
+                if (regimentCells[g] == cell) {
                     set |= 1 << g;
                 }
             }
@@ -713,8 +713,14 @@ public final class BackMarch {
             return Math.abs(xOf(here) - xOf(hers)) + Math.abs(yOf(here) - yOf(hers));
         }
 
+        /** Whether a REGIMENT may come to a cell: it is FREE, and no FOLD, where FOLDS are avoided. */
         boolean mayEnter(int cell, boolean foldsToo) {
-            return ground.isOpen(cell) && regimentsAt(cell) == 0 && (foldsToo || !ground.isFold(cell));
+            if (!ground.has(cell)) {
+                return false;
+            }
+            long mask = Land.maskOf(cell);
+            boolean open = (ground.walls & mask) == 0 && (foldsToo || (ground.folds & mask) == 0);
+            return open && regimentsAt(cell) == 0;
         }
 
         void settle(int g, int cell) {
@@ -783,12 +789,12 @@ public final class BackMarch {
 
         /** The side to which it goes away from its MOTHER; OFF, if to none. */
         int sideAway(int g) {
-            int m = mindedBy(g);
+            int m = elementOf(minded, g);
             if (m == NOBODY) {
                 return OFF;
             }
-            int here = regimentCell(g);
-            int hers = motherCell(m);
+            int here = elementOf(regimentCells, g);
+            int hers = elementOf(motherCells, m);
             int x = xOf(here) - xOf(hers);
             int y = yOf(here) - yOf(hers);
             if (x == 0 && y == 0) {

@@ -136,6 +136,9 @@ public final class RulesTest {
     private static void objects() {
         com.sun.management.ThreadMXBean bean =
                 (com.sun.management.ThreadMXBean) java.lang.management.ManagementFactory.getThreadMXBean();
+        if (!bean.isThreadAllocatedMemorySupported() || !bean.isThreadAllocatedMemoryEnabled()) {
+            return;
+        }
         long thread = Thread.currentThread().getId();
         BackMarch x = new BackMarch();
         bean.getThreadAllocatedBytes(thread);
