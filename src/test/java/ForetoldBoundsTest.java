@@ -318,6 +318,9 @@ public final class ForetoldBoundsTest {
         Check.due("behind 20", x.watches(0, 20, 43), 1);
         Check.due("it is there then, and stays by the other", x.faced(0), 3);
         x.forget();
+        x.watches(0, 20, 42);
+        Check.due("behind 20 elsewhere", x.faced(0), 0);
+        x.forget();
         x.watches(0, 19, 43);
         Check.due("behind 19 only by the other", x.faced(0), 2);
         x.forget();

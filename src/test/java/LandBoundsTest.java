@@ -29,6 +29,7 @@ public final class LandBoundsTest {
         endsTooEarly();
         theFirstOfSeveralFaults();
         landEmptiesTheText();
+        readAnew();
         Check.end("LandBoundsTest");
     }
 
@@ -396,6 +397,30 @@ public final class LandBoundsTest {
         Check.due("is empty then", x.count(5), 0);
         Check.due("so again it tells nothing", x.land(), 0);
         Check.due("and nobody is there", x.count(2), 0);
+    }
+
+    // Read anew: as told, nothing WATCHED, IMAGES are gone, nothing can be UNDONE
+    private static void readAnew() {
+        BackMarch x = Check.landOf("n3 3;o0 0 0;o1 1 1;o2 0 0;m0 0;m2 2;g1 0 0;g2 2 9;");
+        x.deals(1, 1);
+        x.step();
+        x.watches(0, 0, 0);
+        x.keep(0);
+        x.keep(1);
+        Check.due("of nothing", x.land(), 0);
+        Check.due("no FOLD", x.cell(0, 0), 0);
+        Check.due("no WALL", x.cell(11, 0), 0);
+        for (int what = 0; what <= 3; what++) {
+            Check.due("now(" + what + ")", x.now(what), 0);
+        }
+        Check.due("none may be UNDONE", x.undo(), BackMarch.STATE);
+        Check.due("none is WATCHED", x.forget(), 0);
+        Check.due("image 0", x.back(0), BackMarch.STATE);
+        Check.due("image 1", x.back(1), BackMarch.STATE);
+        Check.due("the same anew", Check.read(x, "m2 2;g1 0 0;g2 2 0;"), 3);
+        Check.due("KNOWN", x.now(0), 2);
+        Check.due("MIRRORS", x.now(1), 0);
+        Check.due("DOWN", x.now(2), 0);
     }
 
     private static void reads(String text, int items) {
