@@ -9,6 +9,7 @@ public final class ForetoldBoundsTest {
         whereBehindForty();
         fallsInNoSteps();
         fallsInForty();
+        fallsLate();
         comesBehindNoSteps();
         comesBehindForty();
         comesNever();
@@ -22,6 +23,7 @@ public final class ForetoldBoundsTest {
         dealTooMany();
         dealInNoSteps();
         dealLeastBits();
+        dealLate();
         oddsOfNoMothers();
         oddsOfNoneAndAll();
         oddsOfAsManyAsThereAre();
@@ -83,6 +85,17 @@ public final class ForetoldBoundsTest {
         Check.due("falls(40)", x.falls(40), 6 + 1 + 1);
         Check.due("falls(41)", x.falls(41), BackMarch.BAD);
         Check.due("falls(-1)", x.falls(-1), BackMarch.BAD);
+    }
+
+    private static void fallsLate() {
+        // Found by search: nobody was found to fall later than in the 18th STEP.
+        BackMarch x = Check.landOf("m4 2;m3 1;m0 4;g2 3 1;g2 3 1;g1 4 2;g2 4 1;o5 4 0;o2 4 0;o0 6 1;o1 6 1;o7 4 0;"
+                + "o3 4 0;o3 6 1;o6 4 0;o2 6 0;o4 4 0;o0 5 1;");
+        x.deals(3, 1);
+        int[] due = {0, 0, 1, 1, 1, 2, 3, 3, 4, 5, 6, 6, 7, 7, 8, 8, 9, 9, 10};
+        for (int n = 0; n <= 40; n++) {
+            Check.due("falls(" + n + ")", x.falls(n), due[Math.min(n, 18)]);
+        }
     }
 
     // COMES: behind how many (0 .. 40) STEPS it is there first
@@ -231,6 +244,16 @@ public final class ForetoldBoundsTest {
         Check.due("one of three", x.deal(1, 1), 2);
         Check.due("two of three", x.deal(2, 1), 6);
         Check.due("all three", x.deal(3, 1), 14);
+    }
+
+    private static void dealLate() {
+        // Found by search: only in the 16th STEP it shows that the first should have the one MIRROR.
+        BackMarch x = Check.landOf("m5 0;m7 5;g6 4 1;g4 2 0;g6 4 1;g4 2 0;o2 4 0;o4 4 0;o3 6 1;o3 3 1;o5 4 0;"
+                + "o0 4 0;o1 4 0;o3 4 0;o5 2 1;o0 0 0;o6 3 0;");
+        for (int n = 6; n <= 20; n++) {
+            Check.due("deal(1, " + n + ")", x.deal(1, n), n < 16 ? 4 : 1);
+            Check.due("deal(2, " + n + ")", x.deal(2, n), 5);
+        }
     }
 
     // ODDS
